@@ -26,6 +26,8 @@ public final class BeatFollower {
     private static final int QUARTERS = 4;
     /* Later than every time that a run can reach. */
     private static final int NEVER = 1000000;
+    /* More slips, and more quarters in a sum, than a plan can tell. */
+    private static final int MORE_THAN_ANY = 1000000;
     /* 64 beats, and ahead of each and behind the last at most 20 held blows up to the silence. */
     private static final int MOST_HAPPENINGS = 2000;
 
@@ -227,7 +229,7 @@ public final class BeatFollower {
             return NONE;
         }
         trial.plan.copyFrom(scene.plan);
-        int best = 0, fewest = NEVER, least = NEVER;
+        int best = 0, fewest = MORE_THAN_ANY, least = MORE_THAN_ANY;
         for (int strength = 0; strength <= STRONGEST; strength++) {
             playTrial(setting == PHASE ? strength : scene.settings[PHASE],
                     setting == PACE ? strength : scene.settings[PACE]);
@@ -249,7 +251,7 @@ public final class BeatFollower {
         if (scene.plan.many == 0) {
             return NONE;
         }
-        int worst = 0, fewest = NEVER;
+        int worst = 0, fewest = MORE_THAN_ANY;
         for (int beat = 0; beat < scene.plan.many; beat++) {
             trial.plan.copyWithout(scene.plan, beat);
             playTrial(scene.settings[PHASE], scene.settings[PACE]);
@@ -473,7 +475,7 @@ public final class BeatFollower {
         private void passOver(int beat, int off) {
             tally.passedOver++;
             fates.note(beat, PASSED_OVER, NONE, OFF_ZERO + off, NONE);
-            judge(false, false);
+            judge(false);
         }
 
         private void takeBeat(int beat, int off) {
@@ -487,7 +489,7 @@ public final class BeatFollower {
             drummer.lead = lead;
             tally.addSlip(slip);
             fates.note(beat, TAKEN, blows.many, OFF_ZERO + off, SLIP_ZERO + slip);
-            judge(good, true);
+            judge(good);
             blows.append(awaited, beat, drummer.period, drummer.state);
         }
 
@@ -506,17 +508,18 @@ public final class BeatFollower {
             if (drummer.state == LOCKED) {
                 drummer.state = HOLDING;
             }
-            judge(false, false);
+            judge(false);
             if (drummer.heldInRow >= settings[HOLD]) {
                 fallSilent();
             }
             blows.append(awaited, NONE, drummer.period, drummer.state);
         }
 
-        private void judge(boolean good, boolean taken) {
+        private void judge(boolean good) {
             drummer.goodInRow = good ? drummer.goodInRow + 1 : 0;
             drummer.badInRow = good ? 0 : drummer.badInRow + 1;
-            if (drummer.state != LOCKED && drummer.goodInRow >= settings[WIN] && taken) {
+            // only a beat that was taken is good, so that nothing else wins the lock
+            if (good && drummer.state != LOCKED && drummer.goodInRow >= settings[WIN]) {
                 drummer.state = LOCKED;
                 tally.locksWon++;
             }
@@ -673,7 +676,8 @@ public final class BeatFollower {
         }
 
         int rowOf(int blow) {
-            return Math.floorMod(blow, KEPT_BLOWS);
+            // the rows are a power of 2, so that this is the remainder, and a row whatever the number is
+            return blow & (KEPT_BLOWS - 1);
         }
 
         void append(int time, int beat, int period, int state) {

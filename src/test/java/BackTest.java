@@ -207,6 +207,59 @@ public final class BackTest {
         same("20: goes on as before", all(x), due);
     }
 
+    /** Hears another plan, so that every row of what was is written over. */
+    private static void hearAnother(BeatFollower x) {
+        x.anew();
+        x.cut(7);
+        x.set(2, 0);
+        for (int i = 0; i < 8; i++) {
+            x.beat(77 + 9 * (i % 3), 2);
+        }
+        x.pass(2000);
+    }
+
+    private static void rowsComeBack() {
+        BeatFollower x = locked();
+        int[] due = all(x);
+        x.save(0);
+        hearAnother(x);
+        x.restore(0);
+        same("22: behind another plan", all(x), due);
+        hearAnother(x);
+        x.save(1);
+        x.restore(0);
+        x.pass(1);
+        x.restore(1);
+        x.undo();
+        x.undo();
+        same("20: behind another plan", all(x), due);
+    }
+
+    /** Bad ones in a row and the lead are not told by themselves, or seldom; what comes behind tells them. */
+    private static void rowsInARowAndLeadComeBack() {
+        BeatFollower x = new BeatFollower();
+        x.beat(100, 4);
+        x.beat(20, 0);
+        x.pass(130);
+        x.save(0);
+        c.due("22: a bad one", x.count(12), 1);
+        x.pass(5000);
+        x.restore(0);
+        c.due("22: a bad one again", x.count(12), 1);
+        x.beat(80, 1);
+        x.pass(80);
+        c.due("22: the lead is that of the first beat", x.ofBeat(2, 5), 1002);
+        x.anew();
+        x.cut(3);
+        x.beat(100, 9);
+        x.pass(150);
+        x.undo();
+        x.restore(0);
+        x.beat(80, 1);
+        x.pass(80);
+        c.due("22: and again", x.ofBeat(2, 5), 1002);
+    }
+
     public static void main(String[] args) {
         undoOfEach();
         undoHistory();
@@ -216,6 +269,8 @@ public final class BackTest {
         overwritten();
         restoreIsAChange();
         goesOnAsBefore();
+        rowsComeBack();
+        rowsInARowAndLeadComeBack();
         c.close();
     }
 }

@@ -1,7 +1,7 @@
 /** What happens: A, B.1, B.2 and C, the lock, the silence, the nudges and the slips (promises 5 and 7 to 10). */
 public final class HappeningsTest {
     private static final int SEEKING = 0, LOCKED = 1, HOLDING = 2, NONE = -6;
-    private static final int WINDOW = 1, PHASE = 2, PACE = 3, GOOD = 4, WIN = 5, LOSE = 6, HOLD = 7;
+    private static final int BASE = 0, WINDOW = 1, PHASE = 2, PACE = 3, GOOD = 4, WIN = 5, LOSE = 6, HOLD = 7;
     private static final Check c = new Check("HappeningsTest");
 
     /** A drummer with some settings (setting, value, setting, value, ..) and nothing else. */
@@ -100,6 +100,9 @@ public final class HappeningsTest {
         c.due("B.1: the next blow stays", x.count(3), 800);
         c.due("B.1: the period stays", x.count(2), 400);
         c.due("B.1: bad", x.count(12), 1);
+        x = with(BASE, 103);
+        hear(x, 100, 72);
+        c.due("B.1: -124 with a half window of 412 * 30 / 100, rounded down", x.ofBeat(1, 2), 1);
         x = with();
         hear(x, 100, 70);
         c.due("B.2: -120 with a half window of 120", x.ofBeat(1, 2), 2);
@@ -120,6 +123,9 @@ public final class HappeningsTest {
         BeatFollower x = with(GOOD, 10, PACE, 16);
         hear(x, 100, 111);
         c.due("44 is bad: the period ahead of it counts", x.count(12), 1);
+        x = with(BASE, 112);
+        hear(x, 100, 121);
+        c.due("36 is bad with 448 * 8 / 100, rounded down", x.count(12), 1);
         x = with(GOOD, 0, PHASE, 0, PACE, 0);
         hear(x, 100, 100, 100, 101);
         c.due("GOOD 0: bad behind two good ones", x.count(12), 1);
@@ -249,6 +255,7 @@ public final class HappeningsTest {
         hear(x, 100);
         x.pass(131);
         c.due("silence of who is seeking", x.count(15), 1);
+        c.due("bad ones are forgotten", x.count(12), 0);
         c.due("nothing was lost", x.count(9), 0);
         x = with(WIN, 1, LOSE, 2, HOLD, 2);
         hear(x, 100, 100);

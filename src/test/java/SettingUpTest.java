@@ -251,6 +251,30 @@ public final class SettingUpTest {
         c.due("6: with blow 0", x.ofBeat(0, 3), 0);
     }
 
+    private static void anewOnTheWay() {
+        BeatFollower x = new BeatFollower();
+        x.set(5, 1);
+        x.beat(100, 0);
+        x.beat(100, 0);
+        x.pass(200);
+        c.due("6: locked", x.count(1), 1);
+        c.due("6: a good one", x.count(11), 1);
+        x.anew();
+        c.due("6: seeking", x.count(1), 0);
+        c.due("6: no good one", x.count(11), 0);
+        x.undo();
+        x.pass(131);
+        c.due("6: holding", x.count(1), 2);
+        c.due("6: a bad one", x.count(12), 1);
+        c.due("6: a held one", x.count(13), 1);
+        x.anew();
+        c.due("6: not holding", x.count(1), 0);
+        c.due("6: no bad one", x.count(12), 0);
+        c.due("6: no held one", x.count(13), 0);
+        c.due("6: no next blow", x.count(3), NONE);
+        c.due("6: BASE can be set", x.set(0, 50), 100);
+    }
+
     public static void main(String[] args) {
         newObject();
         setRanges();
@@ -262,6 +286,7 @@ public final class SettingUpTest {
         pass();
         passUpTo();
         anew();
+        anewOnTheWay();
         c.close();
     }
 }

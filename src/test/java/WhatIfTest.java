@@ -109,6 +109,9 @@ public final class WhatIfTest {
         x.set(HOLD, 6);
         x.beat(150, 0);
         c.due("12: a beat ahead of it does not count", x.ifHeard(69), 2);
+        x = beats(100, 100);
+        x.pass(100);
+        c.due("12: one that would keep the drummer from a silence does not count", x.ifHeard(631), 3);
         x = beats(100);
         x.pass(100);
         x.set(WINDOW, 50);
