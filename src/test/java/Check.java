@@ -1,6 +1,7 @@
 /** Counts answers that are as due and prints those that are not. */
 final class Check {
     private final String name;
+    private String sentence = "";
     private int right;
     private int wrong;
 
@@ -8,12 +9,17 @@ final class Check {
         this.name = name;
     }
 
+    /** The sentence of the document that the next answers are due by; its promise goes ahead. */
+    void sentence(String words) {
+        sentence = words + ": ";
+    }
+
     void due(String call, long got, long want) {
         if (got == want) {
             right++;
         } else {
             wrong++;
-            System.out.println(name + ": " + call + " answered " + got + ", due is " + want);
+            System.out.println(name + ": " + sentence + call + " answered " + got + ", due is " + want);
         }
     }
 

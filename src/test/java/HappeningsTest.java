@@ -4,15 +4,6 @@ public final class HappeningsTest {
     private static final int BASE = 0, WINDOW = 1, PHASE = 2, PACE = 3, GOOD = 4, WIN = 5, LOSE = 6, HOLD = 7;
     private static final Check c = new Check("HappeningsTest");
 
-    /** A drummer with some settings (setting, value, setting, value, ..) and nothing else. */
-    private static BeatFollower with(int... settings) {
-        BeatFollower x = new BeatFollower();
-        for (int i = 0; i < settings.length; i += 2) {
-            x.set(settings[i], settings[i + 1]);
-        }
-        return x;
-    }
-
     /** Puts beats, each so many ticks behind the one ahead of it, and hears them. */
     private static void hear(BeatFollower x, int... afters) {
         int sum = x.count(14) == 0 ? 0 : x.ofBeat(x.count(14) - 1, 0);
@@ -24,7 +15,7 @@ public final class HappeningsTest {
     }
 
     private static void struckWith() {
-        BeatFollower x = with();
+        BeatFollower x = Made.with();
         hear(x, 70);
         c.due("A: the next blow", x.count(3), 4 * 70 + 400);
         c.due("A: became", x.ofBeat(0, 2), 3);
@@ -44,7 +35,7 @@ public final class HappeningsTest {
     }
 
     private static void nudges() {
-        BeatFollower x = with();
+        BeatFollower x = Made.with();
         hear(x, 100, 99);
         c.due("B.2: -4 nudges the period", x.count(2), 399);
         c.due("B.2: -4 nudges the blow", x.count(3), 800 - 2 + 399);
@@ -55,29 +46,29 @@ public final class HappeningsTest {
         c.due("B.2: blow's time is as awaited", x.ofBlow(2, 0), 1197);
         c.due("B.2: blow's period is that behind it", x.ofBlow(2, 2), 397);
         c.due("B.2: blow's beat", x.ofBlow(2, 1), 2);
-        x = with(PHASE, 3, PACE, 7);
+        x = Made.with(PHASE, 3, PACE, 7);
         hear(x, 100, 105);
         c.due("B.2: 20 * 7 / 16 is 8", x.count(2), 408);
         c.due("B.2: 20 * 3 / 16 is 3", x.count(3), 800 + 3 + 408);
-        x = with(PHASE, 0, PACE, 0);
+        x = Made.with(PHASE, 0, PACE, 0);
         hear(x, 100, 120);
         c.due("B.2: no nudge of the period", x.count(2), 400);
         c.due("B.2: no nudge of the blow", x.count(3), 1200);
-        x = with(PHASE, 16, PACE, 16);
+        x = Made.with(PHASE, 16, PACE, 16);
         hear(x, 100, 120);
         c.due("B.2: whole nudge of the period", x.count(2), 480);
         c.due("B.2: whole nudge of the blow", x.count(3), 880 + 480);
     }
 
     private static void bounds() {
-        BeatFollower x = with(WINDOW, 50, PHASE, 0, PACE, 16);
+        BeatFollower x = Made.with(WINDOW, 50, PHASE, 0, PACE, 16);
         hear(x, 100, 150);
         c.due("B.2: as late as the window allows", x.ofBeat(1, 4), 100200);
         c.due("B.2: 600", x.count(2), 600);
         hear(x, 175);
         c.due("B.2: 8 * BASE at most", x.count(2), 800);
         c.due("B.2: the blow uses the bounded period", x.count(3), 1400 + 800);
-        x = with(WINDOW, 50, PHASE, 0, PACE, 16);
+        x = Made.with(WINDOW, 50, PHASE, 0, PACE, 16);
         hear(x, 100, 50);
         c.due("B.2: as early as the window allows", x.ofBeat(1, 2), 2);
         c.due("B.2: 200", x.count(2), 200);
@@ -88,7 +79,7 @@ public final class HappeningsTest {
     }
 
     private static void passedOver() {
-        BeatFollower x = with();
+        BeatFollower x = Made.with();
         hear(x, 100, 69);
         c.due("B.1: -124 with a half window of 120", x.ofBeat(1, 2), 1);
         c.due("B.1: off", x.ofBeat(1, 4), 100000 - 124);
@@ -100,14 +91,14 @@ public final class HappeningsTest {
         c.due("B.1: the next blow stays", x.count(3), 800);
         c.due("B.1: the period stays", x.count(2), 400);
         c.due("B.1: bad", x.count(12), 1);
-        x = with(BASE, 103);
+        x = Made.with(BASE, 103);
         hear(x, 100, 72);
         c.due("B.1: -124 with a half window of 412 * 30 / 100, rounded down", x.ofBeat(1, 2), 1);
-        x = with();
+        x = Made.with();
         hear(x, 100, 70);
         c.due("B.2: -120 with a half window of 120", x.ofBeat(1, 2), 2);
         c.due("B.2: bad, too", x.count(12), 1);
-        x = with();
+        x = Made.with();
         hear(x, 100, 130);
         c.due("B.2: 120 with a half window of 120", x.ofBeat(1, 2), 2);
     }
@@ -115,18 +106,18 @@ public final class HappeningsTest {
     private static void goodAndBad() {
         int[][] cases = {{108, 1}, {109, 0}, {92, 1}, {91, 0}, {100, 1}};
         for (int[] k : cases) {
-            BeatFollower x = with();
+            BeatFollower x = Made.with();
             hear(x, 100, k[0]);
             c.due("good ones in a row, " + k[0] + " behind", x.count(11), k[1]);
             c.due("bad ones in a row, " + k[0] + " behind", x.count(12), 1 - k[1]);
         }
-        BeatFollower x = with(GOOD, 10, PACE, 16);
+        BeatFollower x = Made.with(GOOD, 10, PACE, 16);
         hear(x, 100, 111);
         c.due("44 is bad: the period ahead of it counts", x.count(12), 1);
-        x = with(BASE, 112);
+        x = Made.with(BASE, 112);
         hear(x, 100, 121);
         c.due("36 is bad with 448 * 8 / 100, rounded down", x.count(12), 1);
-        x = with(GOOD, 0, PHASE, 0, PACE, 0);
+        x = Made.with(GOOD, 0, PHASE, 0, PACE, 0);
         hear(x, 100, 100, 100, 101);
         c.due("GOOD 0: bad behind two good ones", x.count(12), 1);
         c.due("GOOD 0: good ones begin anew", x.count(11), 0);
@@ -136,7 +127,7 @@ public final class HappeningsTest {
     }
 
     private static void lockWonAndLost() {
-        BeatFollower x = with();
+        BeatFollower x = Made.with();
         hear(x, 100, 100, 100);
         c.due("two good ones", x.count(1), SEEKING);
         hear(x, 100);
@@ -161,7 +152,7 @@ public final class HappeningsTest {
     }
 
     private static void lostByBadTakenOnes() {
-        BeatFollower x = with(WIN, 1, LOSE, 2, PHASE, 0, PACE, 0);
+        BeatFollower x = Made.with(WIN, 1, LOSE, 2, PHASE, 0, PACE, 0);
         hear(x, 100, 100);
         c.due("won by one", x.count(1), LOCKED);
         hear(x, 120);
@@ -179,7 +170,7 @@ public final class HappeningsTest {
     }
 
     private static void holding() {
-        BeatFollower x = with(WIN, 2, LOSE, 4, HOLD, 20);
+        BeatFollower x = Made.with(WIN, 2, LOSE, 4, HOLD, 20);
         hear(x, 100, 100, 100);
         c.due("locked", x.count(1), LOCKED);
         x.pass(130);
@@ -217,7 +208,7 @@ public final class HappeningsTest {
     }
 
     private static void heldGoOnOverPassedOnes() {
-        BeatFollower x = with(HOLD, 2);
+        BeatFollower x = Made.with(HOLD, 2);
         hear(x, 100);
         x.pass(131);
         c.due("one held", x.count(13), 1);
@@ -230,7 +221,7 @@ public final class HappeningsTest {
     }
 
     private static void silence() {
-        BeatFollower x = with(WIN, 1, LOSE, 8, HOLD, 2);
+        BeatFollower x = Made.with(WIN, 1, LOSE, 8, HOLD, 2);
         hear(x, 100, 100);
         x.pass(131);
         c.due("one held", x.count(1), HOLDING);
@@ -251,18 +242,18 @@ public final class HappeningsTest {
         hear(x, 2000);
         c.due("a blow is struck with the next beat", x.ofBeat(2, 2), 3);
         c.due("its blow", x.ofBeat(2, 3), 4);
-        x = with(HOLD, 1);
+        x = Made.with(HOLD, 1);
         hear(x, 100);
         x.pass(131);
         c.due("silence of who is seeking", x.count(15), 1);
         c.due("bad ones are forgotten", x.count(12), 0);
         c.due("nothing was lost", x.count(9), 0);
-        x = with(WIN, 1, LOSE, 2, HOLD, 2);
+        x = Made.with(WIN, 1, LOSE, 2, HOLD, 2);
         hear(x, 100, 100);
         x.pass(231);
         c.due("lost by bad ones and silent at once", x.count(15), 1);
         c.due("lost once", x.count(9), 1);
-        x = with(WIN, 2, LOSE, 8, HOLD, 1, PACE, 16);
+        x = Made.with(WIN, 2, LOSE, 8, HOLD, 1, PACE, 16);
         hear(x, 100, 105);
         x.pass(200);
         c.due("the period stays in a silence", x.count(2), 420);
@@ -270,7 +261,7 @@ public final class HappeningsTest {
     }
 
     private static void settingsOnTheWay() {
-        BeatFollower x = with(WIN, 8);
+        BeatFollower x = Made.with(WIN, 8);
         hear(x, 100, 100, 100);
         x.set(WIN, 2);
         c.due("WIN alone wins nothing", x.count(1), SEEKING);
@@ -283,7 +274,7 @@ public final class HappeningsTest {
         c.due("a good one saves the lock", x.count(1), LOCKED);
         hear(x, 10);
         c.due("a bad one loses it", x.count(1), SEEKING);
-        x = with(HOLD, 20);
+        x = Made.with(HOLD, 20);
         hear(x, 100);
         x.pass(331);
         c.due("three held", x.count(13), 3);
@@ -291,7 +282,7 @@ public final class HappeningsTest {
         c.due("HOLD alone makes no silence", x.count(3), 2000);
         x.pass(100);
         c.due("the next held one does", x.count(15), 1);
-        x = with(WINDOW, 50);
+        x = Made.with(WINDOW, 50);
         hear(x, 100);
         x.pass(140);
         c.due("the window is open", x.count(5), 0);
@@ -300,7 +291,7 @@ public final class HappeningsTest {
         x.pass(1);
         c.due("a narrower window was over", x.count(5), 1);
         c.due("its blow", x.ofBlow(1, 0), 800);
-        x = with();
+        x = Made.with();
         hear(x, 100);
         x.pass(120);
         x.set(WINDOW, 50);
@@ -309,7 +300,7 @@ public final class HappeningsTest {
     }
 
     private static void slips() {
-        BeatFollower x = with();
+        BeatFollower x = Made.with();
         x.beat(100, 5);
         x.beat(200, 0);
         x.beat(50, 0);
@@ -336,7 +327,7 @@ public final class HappeningsTest {
         x.beat(100, 1);
         x.pass(100);
         c.due("the lead of A counts", x.ofBeat(7, 5), 1001);
-        x = with();
+        x = Made.with();
         x.beat(100, 0);
         x.beat(300, 0);
         x.pass(400);

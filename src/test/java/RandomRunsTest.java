@@ -97,16 +97,8 @@ public final class RandomRunsTest {
 
     private void putText(String text) {
         for (int i = 0; i < text.length(); i += 8) {
-            put(packed(text.substring(i, Math.min(text.length(), i + 8))));
+            put(Made.packed(text.substring(i, Math.min(text.length(), i + 8))));
         }
-    }
-
-    private static long packed(String text) {
-        long characters = 0;
-        for (int i = 0; i < text.length(); i++) {
-            characters = (characters << 8) | text.charAt(i);
-        }
-        return characters;
     }
 
     private String number(int low, int high) {
@@ -153,13 +145,13 @@ public final class RandomRunsTest {
     }
 
     private void oddPut() {
-        long characters = packed("" + SIGNS.charAt(below(SIGNS.length())) + SIGNS.charAt(below(SIGNS.length())));
+        long characters = Made.packed("" + SIGNS.charAt(below(SIGNS.length())) + SIGNS.charAt(below(SIGNS.length())));
         switch (below(5)) {
             case 0: put(characters << 8); break;
             case 1: put(characters | 1L << from(16, 63)); break;
             case 2: put(from(0, 260)); break;
             case 3: put(characters << 8 | from(30, 36)); break;
-            default: put(packed("" + (char) from(120, 129) + "b1")); break;
+            default: put(Made.packed("" + (char) from(120, 129) + "b1")); break;
         }
     }
 

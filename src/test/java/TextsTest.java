@@ -3,19 +3,11 @@ public final class TextsTest {
     private static final int NO_SUCH = -1, BAD_VALUE = -2, BAD_TEXT = -3, TOO_MANY = -4, NOT_POSSIBLE = -5, NONE = -6;
     private static final Check c = new Check("TextsTest");
 
-    private static long packed(String text) {
-        long characters = 0;
-        for (int i = 0; i < text.length(); i++) {
-            characters = (characters << 8) | text.charAt(i);
-        }
-        return characters;
-    }
-
     private static void write(BeatFollower x, String text) {
         x.wipe();
         for (int i = 0; i < text.length(); i += 8) {
             int end = Math.min(text.length(), i + 8);
-            c.due("put of " + text, x.put(packed(text.substring(i, end))), end);
+            c.due("put of " + text, x.put(Made.packed(text.substring(i, end))), end);
         }
     }
 
@@ -37,11 +29,11 @@ public final class TextsTest {
         c.due("16: the lowest code", x.put(33), 1);
         c.due("16: the highest code", x.put(126), 2);
         c.due("16: one", x.put('b'), 3);
-        c.due("16: eight", x.put(packed("12345678")), 11);
-        c.due("16: two", x.put(packed("!~")), 13);
+        c.due("16: eight", x.put(Made.packed("12345678")), 11);
+        c.due("16: two", x.put(Made.packed("!~")), 13);
         c.due("16: no change", x.count(25), 0);
         x = new BeatFollower();
-        c.due("16: in their order", x.put(packed("b12;e3*4")), 8);
+        c.due("16: in their order", x.put(Made.packed("b12;e3*4")), 8);
         c.due("16: they are read", x.plan(), 5);
         c.due("16: first", x.ofBeat(0, 0), 12);
         c.due("16: last", x.ofBeat(4, 0), 24);
@@ -50,15 +42,15 @@ public final class TextsTest {
     private static void putTooMany() {
         BeatFollower x = new BeatFollower();
         for (int i = 1; i <= 9; i++) {
-            c.due("16: eight more", x.put(packed("aaaaaaaa")), 8 * i);
+            c.due("16: eight more", x.put(Made.packed("aaaaaaaa")), 8 * i);
         }
-        c.due("16: seven more", x.put(packed("aaaaaaa")), 79);
-        c.due("16: two too many", x.put(packed("aa")), TOO_MANY);
-        c.due("16: bad value goes ahead", x.put(packed("a a")), BAD_VALUE);
+        c.due("16: seven more", x.put(Made.packed("aaaaaaa")), 79);
+        c.due("16: two too many", x.put(Made.packed("aa")), TOO_MANY);
+        c.due("16: bad value goes ahead", x.put(Made.packed("a a")), BAD_VALUE);
         c.due("16: nothing was put", x.count(24), 79);
         c.due("16: the 80th", x.put('a'), 80);
         c.due("16: the 81st", x.put('a'), TOO_MANY);
-        c.due("16: eight too many", x.put(packed("aaaaaaaa")), TOO_MANY);
+        c.due("16: eight too many", x.put(Made.packed("aaaaaaaa")), TOO_MANY);
         c.due("17: wipe()", x.wipe(), 80);
         c.due("17: it is empty", x.count(24), 0);
     }
@@ -66,12 +58,12 @@ public final class TextsTest {
     private static void wipe() {
         BeatFollower x = new BeatFollower();
         c.due("17: empty", x.wipe(), 0);
-        x.put(packed("b10"));
+        x.put(Made.packed("b10"));
         c.due("17: wipe()", x.wipe(), 3);
         c.due("17: again", x.wipe(), 0);
         c.due("17: length", x.count(24), 0);
         c.due("17: no change", x.count(25), 0);
-        x.put(packed("b7"));
+        x.put(Made.packed("b7"));
         c.due("17: nothing is left", x.plan(), 1);
         c.due("17: of the first text", x.ofBeat(0, 0), 7);
     }

@@ -5,14 +5,6 @@ public final class WhatIfTest {
     private static final int MIN = Integer.MIN_VALUE, MAX = Integer.MAX_VALUE;
     private static final Check c = new Check("WhatIfTest");
 
-    private static BeatFollower beats(int... afters) {
-        BeatFollower x = new BeatFollower();
-        for (int after : afters) {
-            x.beat(after, 0);
-        }
-        return x;
-    }
-
     /** Beats at 100 (A), 125 and 150 (passed over), 200 (taken), 350 (held ahead of it, taken), 400, with missed ones. */
     private static BeatFollower wavering() {
         BeatFollower x = new BeatFollower();
@@ -44,7 +36,7 @@ public final class WhatIfTest {
     }
 
     private static void nextBlow() {
-        BeatFollower x = beats(100, 105);
+        BeatFollower x = Made.beats(100, 105);
         int[] bad = {0, -1, 21, MIN, MAX};
         for (int b : bad) {
             c.due("11: nextBlow(" + b + ")", x.nextBlow(b), BAD_VALUE);
@@ -83,7 +75,7 @@ public final class WhatIfTest {
     }
 
     private static void ifHeard() {
-        BeatFollower x = beats(100);
+        BeatFollower x = Made.beats(100);
         int[] bad = {0, -1, 10000, MIN, MAX};
         for (int b : bad) {
             c.due("12: ifHeard(" + b + ")", x.ifHeard(b), BAD_VALUE);
@@ -109,10 +101,10 @@ public final class WhatIfTest {
         x.set(HOLD, 6);
         x.beat(150, 0);
         c.due("12: a beat ahead of it does not count", x.ifHeard(69), 2);
-        x = beats(100, 100);
+        x = Made.beats(100, 100);
         x.pass(100);
         c.due("12: one that would keep the drummer from a silence does not count", x.ifHeard(631), 3);
-        x = beats(100);
+        x = Made.beats(100);
         x.pass(100);
         x.set(WINDOW, 50);
         x.pass(140);
@@ -127,7 +119,7 @@ public final class WhatIfTest {
     }
 
     private static void endWithErrors() {
-        BeatFollower x = beats(100, 100);
+        BeatFollower x = Made.beats(100, 100);
         int[][] bad = {{-1, 0, 0}, {17, 0, 0}, {0, -1, 0}, {0, 17, 0}, {0, 0, -1}, {0, 0, 5},
             {MIN, 0, 0}, {MAX, 0, 0}, {0, MIN, 0}, {0, MAX, 0}, {0, 0, MIN}, {0, 0, MAX}};
         for (int[] b : bad) {
@@ -141,7 +133,7 @@ public final class WhatIfTest {
     }
 
     private static void endWith() {
-        BeatFollower x = beats(100, 105, 105, 10, 285);
+        BeatFollower x = Made.beats(100, 105, 105, 10, 285);
         // with no nudge the blows are awaited at 800, 1200, 1600 .. : off by 20, 40, -320, 20 behind two held ones
         c.due("13: off, no nudge", x.endWith(0, 0, 0), 20 + 40 + 20);
         c.due("13: passed over, no nudge", x.endWith(0, 0, 1), 1);
@@ -158,13 +150,13 @@ public final class WhatIfTest {
         c.due("13: the same settings but for the nudges", x.endWith(8, 4, 0), 257);
         c.due("13: told slips", x.endWith(0, 0, 3), 3);
         c.due("13: held ones", x.endWith(16, 16, 2), 7);
-        x = beats(100, 100, 100, 100, 100, 231, 100);
+        x = Made.beats(100, 100, 100, 100, 100, 231, 100);
         c.due("13: two beats while locked: the sixth one comes while holding", x.endWith(8, 4, 4), 1);
         x.set(WIN, 1);
         c.due("13: more while locked", x.endWith(8, 4, 4), 3);
-        x = beats(100, 100, 150);
+        x = Made.beats(100, 100, 150);
         c.due("13: the window ends with the last beat's time ahead of it", x.endWith(0, 0, 2), 1);
-        x = beats(100);
+        x = Made.beats(100);
         x.set(HOLD, 1);
         c.due("13: no further than the last beat", x.endWith(0, 0, 2), 0);
     }
@@ -200,7 +192,7 @@ public final class WhatIfTest {
         c.due("14: one beat: the lowest one", x.bestNudge(PHASE), 0);
         c.due("14: one beat: the lowest one of PACE", x.bestNudge(PACE), 0);
         // a new tempo: 13 and 14 both leave 41 quarters
-        x = beats(100, 105, 105, 105, 105);
+        x = Made.beats(100, 105, 105, 105, 105);
         c.due("14: PACE of a new tempo, the lower one of two", x.bestNudge(PACE), 13);
         c.due("14: what 13 leaves", x.endWith(8, 13, 0), 41);
         c.due("14: what 14 leaves", x.endWith(8, 14, 0), 41);
@@ -209,7 +201,7 @@ public final class WhatIfTest {
         x.set(PHASE, 16);
         c.due("14: PACE of a new tempo with PHASE 16", x.bestNudge(PACE), 16);
         // one beat that wavers, and the others steady: no nudge is best
-        x = beats(100, 100, 110, 90, 100);
+        x = Made.beats(100, 100, 110, 90, 100);
         x.set(PACE, 0);
         c.due("14: PHASE of a single late beat", x.bestNudge(PHASE), 0);
         x = wavering();
@@ -220,13 +212,13 @@ public final class WhatIfTest {
     }
 
     private static void fewestSlipsGoAhead() {
-        BeatFollower x = beats(100, 80, 120, 145, 40);
+        BeatFollower x = Made.beats(100, 80, 120, 145, 40);
         c.due("14: PACE 1 is off by more", x.endWith(8, 1, 0), 156);
         c.due("14: PACE 13 is off by less", x.endWith(8, 13, 0), 95);
         c.due("14: but PACE 13 slips", x.endWith(8, 13, 3), 1);
         c.due("14: and PACE 1 does not", x.endWith(8, 1, 3), 0);
         c.due("14: fewest slips go ahead, PACE", x.bestNudge(PACE), 1);
-        x = beats(100, 80, 80, 45, 155);
+        x = Made.beats(100, 80, 80, 45, 155);
         c.due("14: fewest slips go ahead, PHASE", x.bestNudge(PHASE), 16);
         x.set(PHASE, 0);
         c.due("14: the one asked for does not count", x.bestNudge(PHASE), 16);
@@ -244,11 +236,11 @@ public final class WhatIfTest {
         c.due("15: one beat", x.worstBeat(0), 0);
         c.due("15: one beat, no slip", x.worstBeat(1), 0);
         // one beat too many, at 250: without it its true number is missed, and the slip stays
-        x = beats(100, 100, 50, 50, 100);
+        x = Made.beats(100, 100, 50, 50, 100);
         c.due("15: the first of several", x.worstBeat(0), 0);
         c.due("15: a slip all the same", x.worstBeat(1), 1);
         // the last beat comes half a period late: it alone makes the slip
-        x = beats(100, 100, 100, 300);
+        x = Made.beats(100, 100, 100, 300);
         c.due("15: the last one", x.worstBeat(0), 3);
         c.due("15: no slip without it", x.worstBeat(1), 0);
         x = wavering();
