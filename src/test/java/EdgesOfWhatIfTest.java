@@ -212,6 +212,13 @@ public final class EdgesOfWhatIfTest {
         c.due("the lowest one of PHASE", x.bestNudge(Made.PHASE), 0);
         x.set(Made.PHASE, 0);
         c.due("the lowest one of PACE", x.bestNudge(Made.PACE), 0);
+        x = Made.fullPlan();
+        x.set(Made.PACE, 0);
+        x.cut(2);
+        x.beat(105, 0);
+        c.due("63 beats", x.bestNudge(Made.PHASE), 0);
+        x.beat(100, 0);
+        c.due("the 64th counts, too", x.bestNudge(Made.PHASE), 16);
         c.sentence("14: of several the lowest one");
         c.due("all of them, PHASE", Made.beats(100, 100, 100).bestNudge(Made.PHASE), 0);
         c.due("all of them, PACE", Made.beats(100, 100, 100).bestNudge(Made.PACE), 0);
